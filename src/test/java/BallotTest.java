@@ -86,6 +86,9 @@ public final class BallotTest {
         c.due("no woman -1", x.away(0, -1), -2);
         x.ballot(3, 1, 1, 42L);
         c.due("of her own ballot alone", x.away(1, 1), 0);
+        x.ballot(2, 2, 0, 1L);
+        c.due("the last woman is sent away", x.away(2, 1), -1);
+        drawn(c, x, 2, "03");
         c.due("away of a far one", x.away(Integer.MIN_VALUE, Integer.MAX_VALUE), -2);
     }
 

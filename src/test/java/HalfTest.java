@@ -56,7 +56,7 @@ public final class HalfTest {
         c.due("and one off", x.off(0, edge ^ 1, threads), 1);
         c.due("and two off", x.off(0, edge ^ 1, threads ^ 8), 2);
         c.due("edge alone round", x.off(0, edge, half(1, 1, 2, 2, 3, 3, 4, 4)), 8);
-        // As it is the edge meets at 0 and 1 alone, turned at 5, 6 and 7: the lesser number is due.
+        // Each of the two meets at three places one way and at none the other way.
         ScrapHouse y = new ScrapHouse();
         Check.leave(y, 0, 0, half(0, 0, 1, 1, 1, 2, 2, 2), 0);
         c.due("the lesser, turned", y.off(0, half(5, 5, 5, 3, 3, 3, 3, 0), 0), 5);

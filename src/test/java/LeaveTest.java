@@ -28,6 +28,7 @@ public final class LeaveTest {
         c.due("at the least", x.leave(0, 1, 0, 0, 0, 0), 0);
         c.due("at the most", x.leave(0, 0, 1, 9, Check.ALL, Check.ALL), 1);
         c.due("she left one", x.ball(0, 0), 4);
+        c.due("and so did the last one", x.ball(0, 1), 4);
         c.due("she has not white", x.leave(0, 0, 0, 0, 0, 0), -1);
     }
 

@@ -195,6 +195,17 @@ public final class MoveTest {
         c.due("one bed does", x.beds(7, 1), true);
         c.due("it is full", x.move(3, 7, 8), false);
         c.due("another nurse's beds are hers", x.move(3, 8, 8), true);
+        ScrapHouse y = Check.houseWith(2);
+        y.days(3);
+        y.move(1, 5, 0);
+        y.move(1, 0, 1);
+        y.move(0, 5, 0);
+        y.move(0, 0, 1);
+        c.due("two on day 0 alone", y.beds(5, 1), false);
+        y.move(1, 6, 1);
+        y.move(0, 6, 2);
+        y.move(0, 0, 3);
+        c.due("two on day 2 alone, when the first child came", y.beds(6, 1), false);
     }
 
     private static void many(Check c) {

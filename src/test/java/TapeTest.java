@@ -115,6 +115,8 @@ public final class TapeTest {
         Check.feed(x, "o=8");
         c.due("a tape is not in force", x.claim(0, 0, 0, 0, -1, -1), -1);
         c.due("a second rule", x.rule(), true);
+        c.due("the tape is empty again", x.count(5), 0);
+        c.due("and has a fault", x.fault(), 0);
         c.due("the latest is in force", x.claim(0, 0, 0, 0, -1, -1), 0);
         c.due("the first no more", x.claim(Check.ALL, 0, 0, 0, -1, -1), -1);
         Check.feed(x, "w=0x");
@@ -123,6 +125,7 @@ public final class TapeTest {
         x.end(3);
         c.due("a third rule, shorter or not", x.rule(), true);
         c.due("three rules", x.count(6), 3);
+        c.due("the tape is empty once more", x.count(5), 0);
         c.due("it holds then", x.claim(Check.ALL, 0, 0, 0, -1, -1), 0);
     }
 }
