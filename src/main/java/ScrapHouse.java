@@ -229,7 +229,16 @@ public final class ScrapHouse {
         if (!within(sex, NONE, 1) || !within(mark, NONE, LAST_MARK)) {
             return OUT_OF_BOUNDS;
         }
-        return answerTo(new Claim(new Half(edge, threads), first, last, sex, mark));
+        Claim made = new Claim(new Half(edge, threads), first, last, sex, mark);
+        int fitting = childrenFitting(made);
+        int answer = NONE;
+        for (int number = 0; number < childCount; number++) {
+            setValues(children[number], made, fitting);
+            if (!isGone(children[number], now) && reader.holds(inForce)) {
+                answer = answer == NONE ? number : SEVERAL;
+            }
+        }
+        return answer;
     }
 
     public boolean name(int child, int number) {
@@ -408,31 +417,22 @@ public final class ScrapHouse {
         return days;
     }
 
-    private int answerTo(Claim claim) {
+    private int childrenFitting(Claim claim) {
         int fitting = 0;
         for (int number = 0; number < childCount; number++) {
-            Child child = children[number];
-            if (!isGone(child, now) && claim.disagreeing(child) == 0) {
+            if (!isGone(children[number], now) && claim.disagreeing(children[number]) == 0) {
                 fitting++;
             }
         }
-        int answer = NONE;
-        for (int number = 0; number < childCount; number++) {
-            Child child = children[number];
-            if (!isGone(child, now) && holdsOf(child, claim, fitting)) {
-                answer = answer == NONE ? number : SEVERAL;
-            }
-        }
-        return answer;
+        return fitting;
     }
 
-    private boolean holdsOf(Child child, Claim claim, int fitting) {
+    private void setValues(Child child, Claim claim, int fitting) {
         reader.values[Reader.OFF] = child.half.farOff(claim.half);
         reader.values[Reader.AGREEING] = claim.agreeing(child);
         reader.values[Reader.DISAGREEING] = claim.disagreeing(child);
         reader.values[Reader.FITTING] = fitting;
         reader.values[Reader.DAYS_HERE] = now - child.day;
-        return reader.holds(inForce);
     }
 
     private static final class Ballot {
@@ -679,7 +679,7 @@ public final class ScrapHouse {
         }
 
         int byteAt(int i) {
-            return within(i, 0, length - 1) && i < bytes.length ? bytes[i] & 255 : NONE;
+            return i >= 0 && i < length && i < bytes.length ? bytes[i] & 255 : NONE;
         }
     }
 
@@ -800,7 +800,7 @@ public final class ScrapHouse {
         }
 
         private static boolean isDigit(int letter) {
-            return within(letter, '0', '9');
+            return letter >= '0' && letter <= '9';
         }
 
         private boolean take(char wanted) {

@@ -20,6 +20,10 @@ final class Check {
         due(call, got ? 1 : 0, want ? 1 : 0);
     }
 
+    int wrong() {
+        return wrong;
+    }
+
     void end() {
         if (wrong != 0) {
             System.out.println(title + ": " + wrong + " answers are not as due");

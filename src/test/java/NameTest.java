@@ -48,10 +48,10 @@ public final class NameTest {
     }
 
     private static void everyone(Check c) {
-        ScrapHouse x = Check.houseWith(2);
-        x.name(0, 500);
-        x.name(1, 600);
         for (int who = 0; who <= 19; who++) {
+            ScrapHouse x = Check.houseWith(2);
+            x.name(0, 500);
+            x.name(1, 600);
             c.due("ask ahead of it", x.ask(who, 0), 0);
             c.due("allow " + who, x.allow(who, 0, true), true);
             for (int other = 0; other <= 19; other++) {
